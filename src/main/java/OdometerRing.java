@@ -682,7 +682,6 @@ public final class OdometerRing {
             while (driven <= FARTHEST && !dead) {
                 int next = Math.max(1, stored + step - distance);
                 driven += next;
-                travelled += next;
                 distance += next;
                 storeDistance();
             }
