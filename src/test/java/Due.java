@@ -8,23 +8,37 @@ final class Due {
 
     private static int wrong = 0;
     private static int checked = 0;
+    private static String sentence = "";
+    private static int checkedBefore = 0;
 
     private Due() {
     }
 
-    static void due(String what, long got, long want) {
-        checked++;
-        if (got != want) {
+    /** The answers that follow, up to the next sentence, test these words of the document. */
+    static void sentence(String words) {
+        closeSentence();
+        sentence = words;
+        checkedBefore = checked;
+    }
+
+    private static void closeSentence() {
+        if (!sentence.isEmpty() && checked == checkedBefore) {
             wrong++;
-            System.out.println(what + " answered " + got + ", due is " + want);
+            System.out.println("no answer tests the sentence: " + sentence);
         }
+        sentence = "";
+    }
+
+    static void due(String what, long got, long want) {
+        dueText(what, Long.toString(got), Long.toString(want));
     }
 
     static void dueText(String what, String got, String want) {
         checked++;
         if (!got.equals(want)) {
             wrong++;
-            System.out.println(what + " answered " + got + ", due is " + want);
+            String words = sentence.isEmpty() ? "" : ", by the sentence: " + sentence;
+            System.out.println(what + " answered " + got + ", due is " + want + words);
         }
     }
 
@@ -64,7 +78,30 @@ final class Due {
         return x;
     }
 
+    /** A new object with so many slots, this step and this limit. */
+    static OdometerRing ring(int n, int step, int limit) {
+        return told(head(n, step, limit));
+    }
+
+    static String head(int n, int step, int limit) {
+        return "O" + digits(n, 2) + digits(step, 2) + digits(limit, 3);
+    }
+
+    /** The number's last digits, with zeros before it. */
+    static String digits(int number, int width) {
+        String all = "000" + number;
+        return all.substring(all.length() - width);
+    }
+
+    /** Drives also more than one call can, or nothing at all. */
+    static void driveFar(OdometerRing x, int tenths) {
+        for (int left = tenths; left > 0; left -= 999) {
+            x.drive(Math.min(left, 999));
+        }
+    }
+
     static void finish() {
+        closeSentence();
         System.out.println(wrong == 0 ? checked + " answers are as due" : wrong + " answers are not as due");
         if (wrong != 0 || checked == 0) {
             System.exit(1);

@@ -1,7 +1,11 @@
 /** Long runs of chosen calls, each answered by the class and by Model. The numbers are drawn from a fixed seed. */
 public final class ModelTest {
-    private static final int RUNS = 4000;
-    private static final int CALLS = 250;
+    private static final int RUNS = 6000;
+    private static final int MOST_CALLS = 512;
+    /** What a new text takes at most: 90 characters, and a call before and two behind them. */
+    private static final int CALLS_OF_A_TEXT = 93;
+    /** What a look at all of the largest memory takes. */
+    private static final int CALLS_OF_A_LOOK = 15 + 4 + 12 * (3 + 9) + 39;
     private static final int[] EDGES = {
         Integer.MIN_VALUE, -100000, -99999, -1, 0, 1, 2, 3, 4, 9, 10, 11, 12, 13, 14, 15, 35, 36, 37, 98, 99, 100, 255, 256,
         999, 1000, 9998, 9999, 10000, Integer.MAX_VALUE
@@ -11,6 +15,7 @@ public final class ModelTest {
     private OdometerRing ring;
     private Model model;
     private String log;
+    private int calls;
     private boolean good = true;
 
     private int below(int bound) {
@@ -23,6 +28,7 @@ public final class ModelTest {
     }
 
     private void same(String call, Due.Call onRing, Due.Call onModel) {
+        calls++;
         String got = Due.outcome(onRing);
         String want = Due.outcome(onModel);
         log += call + " = " + want + "; ";
@@ -33,24 +39,20 @@ public final class ModelTest {
         Due.dueText(call, got, want);
     }
 
-    private static String digits(int number, int width) {
-        String all = "000" + number;
-        return all.substring(all.length() - width);
-    }
 
     private String story() {
         int n = below(3) == 0 ? 3 + below(10) : 3 + below(2);
         int limit = below(3) == 0 ? 10 + below(990) : 10 + below(6);
-        StringBuilder s = new StringBuilder("O" + digits(n, 2) + digits(below(2) == 0 ? 1 + below(3) : 1 + below(99), 2) + digits(limit, 3));
+        StringBuilder s = new StringBuilder("O" + Due.digits(n, 2) + Due.digits(below(2) == 0 ? 1 + below(3) : 1 + below(99), 2) + Due.digits(limit, 3));
         int commands = below(20);
         for (int i = 0; i < commands; i++) {
             switch (below(6)) {
-                case 0 -> s.append('d').append(digits(1 + below(999), 3));
-                case 1 -> s.append('d').append(digits(1 + below(30), 3));
-                case 2 -> s.append('c').append(digits(1 + below(below(2) == 0 ? 36 : 5), 2)).append(below(3));
+                case 0 -> s.append('d').append(Due.digits(1 + below(999), 3));
+                case 1 -> s.append('d').append(Due.digits(1 + below(30), 3));
+                case 2 -> s.append('c').append(Due.digits(1 + below(below(2) == 0 ? 36 : 5), 2)).append(below(3));
                 case 3 -> s.append('s');
                 case 4 -> s.append('m').append(below(10)).append(below(10));
-                default -> s.append('r').append(digits(below(n), 2));
+                default -> s.append('r').append(Due.digits(below(n), 2));
             }
         }
         if (below(4) == 0) {
@@ -206,10 +208,11 @@ public final class ModelTest {
         ring = new OdometerRing();
         model = new Model();
         log = "";
+        calls = 0;
         if (number % 5 != 0) {
             newText();
         }
-        for (int i = 0; i < CALLS && good; i++) {
+        while (good && calls + CALLS_OF_A_TEXT + CALLS_OF_A_LOOK <= MOST_CALLS) {
             anyCall();
             if (log.length() > 20000) {
                 log = ".. " + log.substring(10000);

@@ -132,50 +132,26 @@ public final class ScriptTest {
         dueScript(Due.told("O0301999d999d999d999r01"), "8099", 0);
     }
 
-    /** The seed from which the first round computes this r. */
-    private static long seedOf(int r) {
-        // The inverse of an odd factor, found by Newton's way: each turn doubles the right bits.
-        long factor = 6364136223846793005L;
-        long inverse = factor;
-        for (int turn = 0; turn < 6; turn++) {
-            inverse *= 2 - factor * inverse;
-        }
-        return (((long) r << 33) - 1442695040888963407L) * inverse;
-    }
-
-    private static int r(int onFourths, int write, int kind, int tenths) {
-        for (int r = 0; r < 4000000; r++) {
-            if (r % 4 == onFourths && r / 4 % 9 == write - 1 && r / 64 % 3 == kind && r / 256 % 50 == tenths - 1) {
-                return r;
-            }
-        }
-        return -1;
-    }
-
-    private static void dueRound(OdometerRing x, int r, int want) {
-        Due.due("simulate of a round with r = " + r, x.simulate(seedOf(r), 1), want);
-    }
-
     private static void simulateRounds() {
         OdometerRing x = new OdometerRing();
         for (int m : new int[] {0, -1, 100, Integer.MIN_VALUE, Integer.MAX_VALUE}) {
             Due.dueArgument("simulate(1, " + m + ")", () -> x.simulate(1, m));
         }
-        dueRound(x, 0, 10000);
-        dueRound(x, r(1, 1, 0, 50), 500000);
-        dueRound(x, r(2, 1, 0, 50), 500000);
-        dueRound(x, r(3, 9, 2, 1), 10000);
-        dueRound(x, r(0, 1, 0, 9), 90000);
-        dueRound(x, r(0, 1, 0, 50), 100010);
-        dueRound(x, r(0, 2, 1, 50), 100010);
-        dueRound(x, r(0, 3, 1, 50), 100000);
-        dueRound(x, r(0, 4, 0, 50), 200010);
-        dueRound(x, r(0, 9, 2, 50), 300000);
+        Rounds.dueRound("a round", x, 0, 10000);
+        Rounds.dueRound("a round", x, Rounds.r(1, 1, 0, 50), 500000);
+        Rounds.dueRound("a round", x, Rounds.r(2, 1, 0, 50), 500000);
+        Rounds.dueRound("a round", x, Rounds.r(3, 9, 2, 1), 10000);
+        Rounds.dueRound("a round", x, Rounds.r(0, 1, 0, 9), 90000);
+        Rounds.dueRound("a round", x, Rounds.r(0, 1, 0, 50), 100010);
+        Rounds.dueRound("a round", x, Rounds.r(0, 2, 1, 50), 100010);
+        Rounds.dueRound("a round", x, Rounds.r(0, 3, 1, 50), 100000);
+        Rounds.dueRound("a round", x, Rounds.r(0, 4, 0, 50), 200010);
+        Rounds.dueRound("a round", x, Rounds.r(0, 9, 2, 50), 300000);
         x.drive(7);
         x.cut(1, 0);
-        dueRound(x, r(1, 1, 0, 50), 30010);
-        dueRound(x, r(0, 6, 0, 50), 130000);
-        dueRound(x, r(0, 9, 0, 2), 20000);
+        Rounds.dueRound("a round", x, Rounds.r(1, 1, 0, 50), 30010);
+        Rounds.dueRound("a round", x, Rounds.r(0, 6, 0, 50), 130000);
+        Rounds.dueRound("a round", x, Rounds.r(0, 9, 0, 2), 20000);
         Due.due("the cut stays set", x.about(10), 1);
         Due.due("nothing was driven", x.about(5), 7);
         Due.due("nothing is remembered", x.undo(), 1);
@@ -188,8 +164,8 @@ public final class ScriptTest {
         y.drive(190);
         Due.due("1189, stored", y.about(6), 1188);
         y.setStep(12);
-        dueRound(y, r(0, 2, 0, 30), 110012);
-        dueRound(y, r(0, 2, 2, 30), 110000);
+        Rounds.dueRound("a round", y, Rounds.r(0, 2, 0, 30), 110012);
+        Rounds.dueRound("a round", y, Rounds.r(0, 2, 2, 30), 110000);
     }
 
     private static void simulateWithoutPower() {
@@ -197,8 +173,8 @@ public final class ScriptTest {
         x.drive(20);
         x.cut(1, 1);
         x.drive(10);
-        dueRound(x, r(1, 1, 0, 5), 50010);
-        dueRound(x, r(0, 1, 0, 50), 100020);
+        Rounds.dueRound("a round", x, Rounds.r(1, 1, 0, 5), 50010);
+        Rounds.dueRound("a round", x, Rounds.r(0, 1, 0, 50), 100020);
         Due.due("the power stays off", x.about(3), 0);
     }
 
@@ -211,14 +187,14 @@ public final class ScriptTest {
             x.start();
         }
         Due.due("9900 are lost", x.about(5) - x.about(4), 9900);
-        dueRound(x, r(1, 1, 0, 50), 509900);
+        Rounds.dueRound("a round", x, Rounds.r(1, 1, 0, 50), 509900);
         x.cut(1, 0);
         x.drive(99);
         x.start();
-        dueRound(x, r(1, 1, 0, 50), 509999);
+        Rounds.dueRound("a round", x, Rounds.r(1, 1, 0, 50), 509999);
         x.cut(1, 0);
         x.drive(99);
-        dueRound(x, r(1, 1, 0, 50), 509999);
+        Rounds.dueRound("a round", x, Rounds.r(1, 1, 0, 50), 509999);
     }
 
     public static void main(String[] args) {

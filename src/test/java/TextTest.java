@@ -190,18 +190,15 @@ public final class TextTest {
         Due.due("load() again", x.load(), 0);
         dueNew("loaded again:", x, 5, 1, 10);
         Due.due("the length stays", x.clearText(), 8);
-        Due.write(x, "O1299999");
-        x.load();
-        dueNew("loaded greatest:", x, 12, 99, 999);
-        Due.write(x, "O0301010");
-        x.load();
-        dueNew("loaded smallest:", x, 3, 1, 10);
-        x.drive(31);
-        x.cut(9, 2);
-        x.service(0, 0);
-        Due.due("dead", x.about(12), 1);
-        x.load();
-        dueNew("loaded over a dead one:", x, 3, 1, 10);
+        dueNew("loaded greatest:", Due.told("O1299999"), 12, 99, 999);
+        OdometerRing y = Due.told("O0301010");
+        dueNew("loaded smallest:", y, 3, 1, 10);
+        y.drive(31);
+        y.cut(9, 2);
+        y.service(0, 0);
+        Due.due("dead", y.about(12), 1);
+        y.load();
+        dueNew("loaded over a dead one:", y, 3, 1, 10);
     }
 
     private static void loadCommands() {
